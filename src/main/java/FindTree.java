@@ -418,8 +418,7 @@ public final class FindTree {
 
         /** A character of a word; 0, which is never typed, if it has none such. */
         char letter(int word, int k) {
-            int i = start(word) + k;
-            return k >= 0 && i < end(word) && i < LINE_LENGTH ? chars[i] : 0;
+            return k >= 0 && k < wordLength(word) ? chars[start(word) + k] : 0;
         }
 
         boolean is(int word, String text) {

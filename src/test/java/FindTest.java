@@ -45,6 +45,10 @@ public final class FindTest {
         Probe.due("no such node", p.find("y"), "-2");
         Probe.due("( first", p.find("( -name x )"), "./x");
         Probe.due("! first", p.find("! -type d"), "./d/e/f ./d/e/g ./d/h ./l ./x");
+        String whole = "./".repeat(49) + "/x";
+        Probe.due("a path of 100 characters", p.find(whole), whole);
+        whole = "/".repeat(99) + "d";
+        Probe.due("a path of 100 characters with names", p.find(whole), String.format(below, whole));
         Probe.due(") is a path", p.find(")"), "-2");
         p.go("d/e");
         Probe.due("HERE", p.find(""), ". ./f ./g");
@@ -126,6 +130,7 @@ public final class FindTest {
         Probe p = small();
         Probe.due("later", p.find("d -newer d/e/f"), "d/e/g d/h");
         Probe.due("a link, followed", p.find("/ -newer l"), "/d/e /d/e/f /d/e/g /d/h /l /x");
+        Probe.due("than the root", p.find("/ -newer / -type d"), "/d /d/e");
         Probe.due("two", p.find("d -newer d ! -newer d/e/f"), "d/e d/e/f");
         Probe.due("from HERE", p.go("d/e"), 2);
         Probe.due("from HERE", p.find("/ -newer g -type f"), "/d/h /x");
