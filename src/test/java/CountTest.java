@@ -1,6 +1,8 @@
 /** Promise 16. */
 public final class CountTest {
     public static void main(String[] args) {
+        Probe.sentence("How many: what = 0 nodes, 1 COMPLAINTS of the last find, 2 characters of THE OUTPUT;"
+            + " -1 for another what.");
         Probe p = new Probe();
         p.dir("d");
         p.dir("e");

@@ -189,6 +189,8 @@ public final class FindTest {
     }
 
     private static void faultsInOrder() {
+        Probe.sentence("SYNTAX, with the word (from 0 on; as many as there are if one is missing) at which THE LINE can't go"
+            + " on, before all others; that of a PATH of -newer, in their order, before that of the PATH; FULL.");
         Probe p = small();
         p.bits("d/e", 0);
         Probe.due("SYNTAX before all", p.find("y -newer y -x"), "-12");
@@ -263,6 +265,7 @@ public final class FindTest {
     }
 
     private static void bounds() {
+        Probe.sentence("IllegalArgument: the present day is out of bounds.");
         Probe p = small();
         p.find("d");
         String before = p.output();
@@ -272,5 +275,11 @@ public final class FindTest {
         }
         Probe.due("the output stays", p.output(), before);
         Probe.due("the greatest", p.find("x", 999999), "x");
+        Probe.due("the least", p.find("x", 0), "x");
+        for (String line : new String[] {"", "nowhere", "-x", ". -newer nowhere"}) {
+            p.line(line);
+            Probe.dueThrow("before a fault", IllegalArgumentException.class, () -> p.tree.find(-1));
+            Probe.dueThrow("before a fault", IllegalArgumentException.class, () -> p.tree.find(1000000));
+        }
     }
 }

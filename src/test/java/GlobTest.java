@@ -1,6 +1,125 @@
 /** What the terms say of P. */
 public final class GlobTest {
+    /** The characters that can be a NAME alone, in the order of their codes. */
+    private static final String ALL = "-0123456789_abcdefghijklmnopqrstuvwxyz";
+
     public static void main(String[] args) {
+        sets();
+        themselves();
+        stars();
+        names();
+        Probe.end();
+    }
+
+    private static void sets() {
+        Probe.sentence("[ and characters, and spans like a-f, and ] one of these");
+        matching("[abc]", "abc");
+        matching("[cab]", "abc");
+        matching("[a]", "a");
+        matching("[aa]", "a");
+        matching("[a-f]", "abcdef");
+        matching("[a-fx0-2]", "012abcdefx");
+        matching("[a-z]", "abcdefghijklmnopqrstuvwxyz");
+        matching("[*]", "");
+        matching("[?]", "");
+        matching("[a*?]", "a");
+        matching("[[a]", "a");
+        matching("[[-a]", "_a");
+        Probe.sentence("with ! behind the [ one but these");
+        matching("[!abc]", but("abc"));
+        matching("[!a-f]", but("abcdef"));
+        matching("[!e]", but("e"));
+        matching("[!!]", ALL);
+        matching("[!!a]", but("a"));
+        matching("[!!-a]", "bcdefghijklmnopqrstuvwxyz");
+        matching("[a!]", "a");
+        matching("[a!b]", "ab");
+        Probe.sentence("a ] directly behind [ or [! is a character");
+        matching("[]a]", "a");
+        matching("[]]", "");
+        matching("[!]]", ALL);
+        matching("[!]a]", but("a"));
+        matching("[]-a]", "_a");
+        matching("[!]-a]", but("_a"));
+        Probe.sentence("a - between two characters makes a span, empty if the first is greater");
+        matching("[a-a]", "a");
+        matching("[a-b]", "ab");
+        matching("[b-a]", "");
+        matching("[!b-a]", ALL);
+        matching("[z-ab]", "b");
+        matching("[-a]", "-a");
+        matching("[a-]", "-a");
+        matching("[-]", "-");
+        matching("[!-]", but("-"));
+        matching("[!-a]", but("-a"));
+        matching("[!a-]", but("-a"));
+        matching("[--0]", "-0");
+        matching("[+--]", "-");
+        matching("[a--]", "");
+        matching("[---]", "-");
+        matching("[--]", "-");
+        matching("[0-_]", "0123456789_");
+        Probe.sentence("without a ] further on, [ is itself");
+        for (String open : new String[] {"[", "[a", "[!", "[!a", "[]", "[!]", "[a-", "[a-z", "[]a", "[*", "[?", "a[", "*["}) {
+            matching(open, "");
+        }
+    }
+
+    private static void themselves() {
+        Probe.sentence("all others are themselves");
+        for (int i = 0; i < ALL.length(); i++) {
+            String one = ALL.substring(i, i + 1);
+            matching(one, one);
+        }
+        for (String other : new String[] {"A", "]", "!", "\\", "\\a", "^", "+", "a]", "(", ")", "$", "/", ".", "..", "aa", "{a}"}) {
+            matching(other, "");
+        }
+    }
+
+    private static void stars() {
+        Probe.sentence("* is any characters, also none; ? one");
+        matching("*", ALL);
+        matching("**", ALL);
+        matching("?", ALL);
+        matching("*?", ALL);
+        matching("?*", ALL);
+        matching("*?*", ALL);
+        matching("??", "");
+        matching("*??", "");
+        matching("a*", "a");
+        matching("*a", "a");
+        matching("*a*", "a");
+        matching("a?", "");
+        matching("?a", "");
+        matching("*[a-c]*", "abc");
+    }
+
+    private static String but(String these) {
+        StringBuilder rest = new StringBuilder();
+        for (char c : ALL.toCharArray()) {
+            rest.append(these.indexOf(c) < 0 ? String.valueOf(c) : "");
+        }
+        return rest.toString();
+    }
+
+    /** Which of all characters match, each as the NAME of a file. */
+    private static void matching(String pattern, String due) {
+        Probe p = new Probe();
+        for (int i = 0; i < ALL.length(); i++) {
+            String directory = "d" + i / 12;
+            if (i % 12 == 0) {
+                p.dir(directory);
+            }
+            p.file(directory + "/" + ALL.charAt(i));
+        }
+        StringBuilder got = new StringBuilder();
+        for (String path : p.find("/ -type f -name " + pattern).split(" ")) {
+            got.append(path.isEmpty() ? "" : path.substring(path.length() - 1));
+        }
+        Probe.due("what matches " + pattern, got.toString(), due);
+    }
+
+    private static void names() {
         String[][] rows = {
             // pattern, names that match, names that don't
             {"abc", "abc", "ab abcd xabc"},
@@ -63,7 +182,6 @@ public final class GlobTest {
         for (String pattern : new String[] {"/", "?", "*", "[/]", "[!a]", "[.-0]"}) {
             Probe.due("/ matches " + pattern, p.find("/ -name " + pattern), "/");
         }
-        Probe.end();
     }
 
     private static void ask(String pattern, String names, boolean due) {

@@ -11,6 +11,8 @@ public final class MakeTest {
     }
 
     private static void ordinary() {
+        Probe.sentence("A directory (SIZE 0), or a file, at the NEW PLACE that is THE LINE's first word: its number,"
+            + " or a fault.");
         Probe p = new Probe();
         Probe.due("a directory", p.line("d").tree.make(true, 77, 5), 1);
         Probe.due("its kind", p.tree.tell(1, 0), 0);
@@ -105,6 +107,7 @@ public final class MakeTest {
     }
 
     private static void bounds() {
+        Probe.sentence("IllegalArgument: size or day is below 0, or above 999,999.");
         Probe p = new Probe();
         p.line("f");
         int[][] wrong = {{-1, 0}, {0, -1}, {1000000, 0}, {0, 1000000}, {Integer.MIN_VALUE, 0},
@@ -115,9 +118,19 @@ public final class MakeTest {
                     () -> p.tree.make(directory, pair[0], pair[1]));
             }
         }
-        p.tree.erase();
-        Probe.dueThrow("before a fault", IllegalArgumentException.class, () -> p.tree.make(true, -1, 0));
+        for (String line : new String[] {"", "Q", "x/y", "/"}) {
+            p.line(line);
+            Probe.dueThrow("before a fault", IllegalArgumentException.class, () -> p.tree.make(true, -1, 0));
+            Probe.dueThrow("before a fault", IllegalArgumentException.class, () -> p.tree.make(false, 0, 1000000));
+        }
         Probe.due("nothing was made", p.tree.count(0), 1);
         Probe.due("the greatest", p.file("f", 999999, 999999), 1);
+        Probe.due("the least", p.file("g", 0, 0), 2);
+        Probe.due("the greatest of a directory", p.line("d").tree.make(true, 999999, 999999), 3);
+        int[][] due = {{999999, 999999}, {0, 0}, {0, 999999}};
+        for (int node = 1; node <= 3; node++) {
+            Probe.due("the size of " + node, p.tree.tell(node, 1), due[node - 1][0]);
+            Probe.due("the day of " + node, p.tree.tell(node, 2), due[node - 1][1]);
+        }
     }
 }

@@ -1,6 +1,7 @@
 /** Promise 10, and what the terms say of GOING along a PATH. */
 public final class NodeTest {
     public static void main(String[] args) {
+        Probe.sentence("The number of the first word's node, FOLLOWED or not; or a fault.");
         steps();
         links();
         loops();

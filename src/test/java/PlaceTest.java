@@ -1,6 +1,14 @@
 /** Promise 13, and the grammar of an EXPRESSION. */
 public final class PlaceTest {
     public static void main(String[] args) {
+        words();
+        lastFind();
+        Probe.end();
+    }
+
+    private static void words() {
+        Probe.sentence("SYNTAX, with the word (from 0 on; as many as there are if one is missing) at which THE LINE can't go"
+            + " on, before all others");
         Probe p = new Probe();
         p.file("-print");
         String[][] rows = {
@@ -15,7 +23,14 @@ public final class PlaceTest {
             {"-mtime", "1"}, {"-mtime 1.", "1"}, {"-links", "1"}, {"-links -a", "1"}, {"-newer", "1"},
             {". -newer", "2"}, {"-name -name -name", "3"}, {"-printx", "0"}, {"-PRINT", "0"}, {". (-print )", "1"},
             {". -print -depth -prune foo -bar", "4"}, {"( ".repeat(50), "50"}, {"! ".repeat(50), "50"},
-            {"-print ) -x", "1"}, {"-type -print", "1"}};
+            {"-print ) -x", "1"}, {"-type -print", "1"}, {"nowhere -x", "1"}, {"nowhere -newer", "2"},
+            {"nowhere -newer nowhere )", "3"}, {"nowhere -newer nowhere -newer nowhere -o", "6"}, {"-print -a -a", "2"},
+            {"-print -o -a -print", "2"}, {"( -print ( -print )", "5"}, {"( -print ) (", "4"}, {"( ( -print ) ) )", "5"},
+            {"! ! )", "2"}, {"( ! )", "2"}, {"( -o", "1"}, {"( -a", "1"}, {"-depth -depth -dept", "2"}, {"-o -print", "0"},
+            {". . -print", "1"}, {"-print -size", "2"}, {"-newer x x", "2"}, {"-prune d", "1"}, {"-print d -x", "1"},
+            {"-print!", "0"}, {". -print)", "1"}, {". !-print", "1"}, {"-name x -type", "3"}, {"-Name x", "0"},
+            {"-names x", "0"}, {"-nam x", "0"}, {"--print", "0"}, {". print", "1"}, {". -type d f", "3"},
+            {"-size + 1", "1"}, {"-and -print", "0"}, {"-print -or -print", "1"}, {"-print -not -print", "1"}};
         for (String[] row : rows) {
             Probe.due("find " + row[0], p.syntax(row[0]), "word " + row[1]);
         }
@@ -27,7 +42,24 @@ public final class PlaceTest {
             Probe.due("SYNTAX of find " + line, p.line(line).tree.find(0) == FindTree.SYNTAX, false);
             Probe.due("place after find " + line, p.tree.place(), -1);
         }
+    }
 
+    private static void lastFind() {
+        Probe.sentence("The word of the last SYNTAX; -1 if the last find had none.");
+        Probe p = new Probe();
+        Probe.due("no find yet", p.tree.place(), -1);
+        p.node("nowhere");
+        Probe.due("still no find", p.tree.place(), -1);
+        p.syntax("-x");
+        Probe.due("word 0", p.tree.place(), 0);
+        p.syntax(". -print -print");
+        Probe.due("a good find", p.tree.place(), -1);
+        p.syntax(". -print -print )");
+        Probe.due("word 3", p.tree.place(), 3);
+        p.syntax(". -size");
+        Probe.due("another SYNTAX", p.tree.place(), 2);
+        p.find(". -newer nowhere");
+        Probe.due("a fault of -newer", p.tree.place(), -1);
         p.syntax(". x");
         p.node("nowhere");
         Probe.due("the place stays till the next find", p.tree.place(), 1);
@@ -35,6 +67,11 @@ public final class PlaceTest {
         Probe.due("is none", p.tree.place(), 1);
         Probe.due("another fault", p.find("nowhere"), "-2");
         Probe.due("has no place", p.tree.place(), -1);
-        Probe.end();
+        p.syntax(". -x");
+        p.tree.erase();
+        p.dir("d");
+        p.go("d");
+        p.real(".");
+        Probe.due("all other calls leave it", p.tree.place(), 1);
     }
 }

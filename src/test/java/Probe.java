@@ -1,6 +1,11 @@
-/** An object under test, with lines told as texts, and a count of the answers that were not as due. */
+/**
+ * An object under test, with lines told as texts, and a count of the answers that were not as due.
+ * It makes more than the 512 calls for which the document promises answers, since reading THE OUTPUT takes a call
+ * for each character; the class goes on answering, and CallsTermsTest keeps to the 512.
+ */
 final class Probe {
     private static int wrong = 0;
+    private static String sentence = "";
 
     final FindTree tree = new FindTree();
 
@@ -9,10 +14,16 @@ final class Probe {
         void run();
     }
 
+    /** The sentence of the document that the checks behind this hold. */
+    static void sentence(String text) {
+        sentence = text;
+    }
+
     static void due(String what, Object got, Object want) {
         if (!want.equals(got)) {
             wrong++;
-            System.out.println(what + " answered " + got + ", due is " + want);
+            System.out.println(what + " answered " + got + ", due is " + want
+                + (sentence.isEmpty() ? "" : ", by: " + sentence));
         }
     }
 
@@ -30,6 +41,17 @@ final class Probe {
         if (wrong != 0) {
             System.exit(1);
         }
+    }
+
+    /** A root with eleven files and the directory zzzzzz, in it one file with a NAME of so many characters. */
+    static Probe wide(int length) {
+        Probe p = new Probe();
+        for (char c = 'a'; c <= 'k'; c++) {
+            p.file("bbbbb" + c);
+        }
+        p.dir("zzzzzz");
+        p.file("zzzzzz/" + "c".repeat(length));
+        return p;
     }
 
     /** Four characters of a text as a number, 0 where it has none. */
@@ -130,5 +152,41 @@ final class Probe {
     String syntax(String line) {
         int answer = line(line).tree.find(0);
         return answer == FindTree.SYNTAX ? "word " + tree.place() : "answer " + answer;
+    }
+
+    /** The number of HERE, which must be open. */
+    int here() {
+        return node(".");
+    }
+
+    /** All that can be told of the nodes. */
+    String nodes() {
+        StringBuilder all = new StringBuilder();
+        for (int node = 0; node < 48; node++) {
+            all.append(node).append(':').append(told(node)).append(' ');
+        }
+        return all.toString();
+    }
+
+    /** All that can be told without changing it, but HERE. */
+    String state() {
+        StringBuilder all = new StringBuilder(nodes());
+        for (int what = 0; what < 3; what++) {
+            all.append(tree.count(what)).append(' ');
+        }
+        all.append(tree.place()).append(' ').append(tree.type(0, 0, 0, 0, 0));
+        return all.append(' ').append(output()).toString();
+    }
+
+    private String told(int node) {
+        try {
+            StringBuilder all = new StringBuilder();
+            for (int what = 0; what < 6; what++) {
+                all.append(tree.tell(node, what)).append(',');
+            }
+            return all.toString();
+        } catch (IndexOutOfBoundsException e) {
+            return "none";
+        }
     }
 }

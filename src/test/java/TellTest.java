@@ -1,6 +1,9 @@
 /** Promise 15. */
 public final class TellTest {
     public static void main(String[] args) {
+        Probe.sentence("what = 0 its kind (0 directory, 1 file, 2 link), 1 SIZE, 2 DAY, 3 TIES, 4 how many NAMES or"
+            + " characters of its TEXT it has (0 of a file), 5 BITS (0 of others); -1 for another what."
+            + " IndexOutOfBounds: there is no such node.");
         Probe p = new Probe();
         p.line("d").tree.make(true, 3, 4);
         p.file("d/f", 5, 6);
