@@ -29,7 +29,12 @@ public final class FindTest {
     }
 
     private static void paths() {
+        Probe.sentence("FINDING: how many lines were printed; or a fault");
         Probe p = small();
+        Probe.due("no line", p.line("d -name x").tree.find(0), 0);
+        Probe.due("one line", p.line("x").tree.find(0), 1);
+        Probe.due("three lines of one node", p.line("x -print -print -print").tree.find(0), 3);
+        Probe.due("eight lines", p.line("").tree.find(0), 8);
         String below = "%1$s %1$s/e %1$s/e/f %1$s/e/g %1$s/h";
         Probe.due("d", p.find("d"), String.format(below, "d"));
         Probe.due("/d", p.find("/d"), String.format(below, "/d"));

@@ -59,6 +59,12 @@ public final class GlobTest {
         matching("[---]", "-");
         matching("[--]", "-");
         matching("[0-_]", "0123456789_");
+        matching("[]-]", "-");
+        matching("[!]-]", but("-"));
+        matching("[a-b-]", "-ab");
+        matching("[-a-c]", "-abc");
+        matching("[!-a-c]", but("-abc"));
+        matching("[a-cx-z]", "abcxyz");
         Probe.sentence("without a ] further on, [ is itself");
         for (String open : new String[] {"[", "[a", "[!", "[!a", "[]", "[!]", "[a-", "[a-z", "[]a", "[*", "[?", "a[", "*["}) {
             matching(open, "");

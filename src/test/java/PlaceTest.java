@@ -34,9 +34,14 @@ public final class PlaceTest {
         for (String[] row : rows) {
             Probe.due("find " + row[0], p.syntax(row[0]), "word " + row[1]);
         }
+        Probe.sentence("an OR is one or more ANDs parted by -o, an AND one or more NOTS, parted by -a or nothing, a NOT is !"
+            + " and a NOT, ( and an OR and ), or a TEST");
         String[] good = {"", ".", "-print", "( -print )", "! -print", "! ( ! -print -o -prune ) -a -depth",
             "-name -o", "-name ( -print", "-name !", "-newer -print", "-size 000000 -size +999999 -size -0",
-            "-print -print ! -print ( -print )", "! ".repeat(47) + "-print",
+            "-print -print ! -print ( -print )", "( ( -print ) )", "! ( -print )", "( ! -print )", "-print -a ! -print",
+            "-print -o ! -print", "-print -a ( -print )", "-print ( -print -o -print ) -o ! ! -print",
+            "-print -a -print -o -print -a -print", "nowhere -print -o -print", ") -print", "-name ) -o -name -a",
+            "! ".repeat(47) + "-print",
             "( ".repeat(23) + "-print" + " )".repeat(23)};
         for (String line : good) {
             Probe.due("SYNTAX of find " + line, p.line(line).tree.find(0) == FindTree.SYNTAX, false);
